@@ -182,6 +182,14 @@ public final class KeysTest {
         due.same("a top", x.key(0, 1, 5), 0);
         x.setKey(0, 1, -1, 1);
         due.same("a bottom", x.key(0, 1, 5), 0);
+        int[][] turns = {{5, 5, 4}, {5, 5, 6}, {4, 5, 5}, {6, 5, 5}, {5, 5, 5}};
+        for (int[] v : turns) {
+            EaseCurves turn = Curves.linear(0, 0, v[0], 3, v[1], 7, v[2]);
+            turn.setTangent(0, 1, 2, 9);
+            due.same("equal values are a turn", turn.key(0, 1, 5), 0);
+            turn.setTangent(0, 1, 1, 9);
+            due.same("but not for smooth ones", turn.key(0, 1, 5), 1000 * (v[2] - v[0]) / 7);
+        }
         EaseCurves down = Curves.linear(0, 0, 20, 3, 15, 7, 9);
         down.setTangent(0, 1, 2, 0);
         due.same("division toward 0", down.key(0, 1, 5), -1571);
@@ -223,6 +231,9 @@ public final class KeysTest {
         Curves.sameKeys(due, "shrunk", x, 0,
                 "5,1,1,0,0,0,0;10,2,1,0,0,0,0;11,3,1,0,0,0,0;13,4,1,0,0,0,0;23,5,1,0,0,0,0;");
         due.same("by 100", x.stretch(0, 0, 999, 100), 0);
+        due.same("the first key, too", x.stretch(0, 3, 4, 200), 5);
+        due.same("its frame", x.key(0, 0, 0), 6);
+        due.same("back again", x.undo(), 3);
         due.same("to the last frame", x.stretch(0, 23, 999, 500), 0);
         EaseCurves end = Curves.linear(0, 0, 0, 333, 1);
         due.same("a key at 999", end.stretch(0, 0, 333, 300), 1);

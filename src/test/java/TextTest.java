@@ -41,6 +41,8 @@ public final class TextTest {
         due.same("the frame", x.key(0, 0, 0), 6);
         due.same("two states", x.undo(), 1);
         due.same("the text outlives undo", x.clearText(), 6);
+        Curves.write(x, "6,6,5");
+        due.same("the bytes of an older text do not count", x.parse(0), -10 - 5);
     }
 
     // Promise 23

@@ -5,6 +5,7 @@ public final class ValuesTest {
     public static void main(String[] args) {
         edges();
         eases();
+        widestEases();
         tangents();
         valueRefuses();
         sum();
@@ -54,6 +55,23 @@ public final class ValuesTest {
         due.same("out, toward 0: 10 - 5", down.value(0, 1), 5);
         down.setKey(0, 0, 10, 4);
         due.same("smooth, toward 0: 10 - 2", down.value(0, 1), 8);
+    }
+
+    /** From -9999 to 9999 over 999 frames, each value by the document's terms. */
+    private static void widestEases() {
+        for (int ease = 0; ease <= 4; ease++) {
+            EaseCurves x = new EaseCurves();
+            x.addKey(0, 0, -9999, ease);
+            x.addKey(0, 999, 9999, 0);
+            for (int f = 0; f < 999; f++) {
+                long t = 1000 * f / 999;
+                long d = 19998;
+                long[] more = {0, d * t / 1000, d * t * t / 1000000,
+                    d * (1000000 - (1000 - t) * (1000 - t)) / 1000000,
+                    d * t * t * (3000 - 2 * t) / 1000000000};
+                due.same("ease " + ease + " at " + f, x.value(0, f), -9999 + more[ease]);
+            }
+        }
     }
 
     private static void tangents() {
@@ -121,7 +139,14 @@ public final class ValuesTest {
         due.same("first frame with it", x.extreme(0, 0, 999, 1), 20);
         due.same("smallest", x.extreme(0, 0, 999, 2), -5);
         due.same("first frame with it", x.extreme(0, 0, 999, 3), 30);
-        due.same("greatest step, down", x.extreme(0, 0, 999, 4), 3);
+        due.same("greatest step", x.extreme(0, 0, 999, 4), 3);
+        due.same("greatest step, down", x.extreme(0, 0, 30, 4), 3);
+        due.same("the greatest value at the end", x.extreme(0, 10, 20, 1), 20);
+        due.same("the smallest value at the end", x.extreme(0, 20, 30, 3), 30);
+        due.same("the greatest value of two frames", x.extreme(0, 15, 16, 1), 16);
+        due.same("the smallest value of two frames", x.extreme(0, 25, 26, 3), 26);
+        due.same("the step of two frames, up", x.extreme(0, 15, 16, 4), 2);
+        due.same("the step of two frames, down", x.extreme(0, 25, 26, 4), 3);
         due.same("greatest in a part", x.extreme(0, 22, 38, 0), 19);
         due.same("its frame", x.extreme(0, 22, 38, 1), 22);
         due.same("smallest in a part", x.extreme(0, 0, 15, 2), 5);
@@ -169,7 +194,10 @@ public final class ValuesTest {
         due.same("to itself", x.difference(0, 0), 0);
         due.same("to an empty one", x.difference(2, 0), 999);
         x.setKey(1, 0, 1200, 1);
-        due.same("at the first frame", x.difference(0, 1), 1200);
+        due.same("behind it nothing is as far", x.difference(0, 1), 1200);
+        EaseCurves first = Curves.linear(0, 0, 7, 1, 0);
+        due.same("at the first frame", first.difference(0, 1), 7);
+        due.same("at the first frame, the other way", first.difference(1, 0), 7);
         due.refused("curve 4", x, Curves.INDEX, () -> x.difference(4, 0));
         due.refused("other 4", x, Curves.INDEX, () -> x.difference(0, 4));
         due.refused("other -1", x, Curves.INDEX, () -> x.difference(0, -1));
@@ -183,6 +211,9 @@ public final class ValuesTest {
         x.addKey(1, 998, 0, 0);
         x.addKey(1, 999, -7, 0);
         due.same("below 0", x.mean(1), -7 / 1000.0);
+        x.addKey(2, 0, 7, 0);
+        x.addKey(2, 1, 0, 0);
+        due.same("of the first frame", x.mean(2), 7 / 1000.0);
         due.refused("curve 4", x, Curves.INDEX, () -> (long) x.mean(4));
         due.refused("curve -1", x, Curves.INDEX, () -> (long) x.mean(-1));
     }
