@@ -24,8 +24,14 @@ final class Due {
 
     /** The call must throw just this exception, and leave the state as it is. */
     void refused(String what, EaseCurves x, Class<? extends RuntimeException> want, Call call) {
-        checked++;
         long before = x.digest();
+        thrown(what, want, call);
+        same(what + " leaves the digest", x.digest(), before);
+    }
+
+    /** The call must throw just this exception. */
+    void thrown(String what, Class<? extends RuntimeException> want, Call call) {
+        checked++;
         try {
             long got = call.make();
             miss(what + " answered " + got + ", due is " + want.getSimpleName());
@@ -34,7 +40,15 @@ final class Due {
                 miss(what + " threw " + e + ", due is " + want.getSimpleName());
             }
         }
-        same(what + " leaves the digest", x.digest(), before);
+    }
+
+    /** The call must answer this, and throw nothing. */
+    void answered(String what, long want, Call call) {
+        try {
+            same(what, call.make(), want);
+        } catch (RuntimeException e) {
+            miss(what + " threw " + e + ", due is " + want);
+        }
     }
 
     void miss(String message) {

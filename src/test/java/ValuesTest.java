@@ -61,9 +61,13 @@ public final class ValuesTest {
     private static void widestEases() {
         for (int ease = 0; ease <= 4; ease++) {
             EaseCurves x = new EaseCurves();
-            x.addKey(0, 0, -9999, ease);
-            x.addKey(0, 999, 9999, 0);
             for (int f = 0; f < 999; f++) {
+                if (f % 500 == 0) {
+                    // An object is good for 512 calls.
+                    x = new EaseCurves();
+                    x.addKey(0, 0, -9999, ease);
+                    x.addKey(0, 999, 9999, 0);
+                }
                 long t = 1000 * f / 999;
                 long d = 19998;
                 long[] more = {0, d * t / 1000, d * t * t / 1000000,
