@@ -58,6 +58,10 @@ public final class StretchTest {
         stretches(0, 5, 200, new int[] {6, 7, 8, 9, 10, 11, 12, 13, 14, 15, 16, 17, 18, 19, 20, 21},
                 new int[] {11, 12, 13, 14, 15, 16, 17, 18, 19, 20, 21, 22, 23, 24, 25, 26});
         stretches(0, 1, 10, new int[] {}, new int[] {});
+        stretches(0, 1, 10, new int[] {0}, new int[] {0});
+        stretches(0, 1, 10, new int[] {1}, new int[] {0});
+        stretches(500, 501, 500, new int[] {0}, new int[] {0});
+        stretches(0, 999, 500, new int[] {0}, new int[] {0});
     }
 
     // "let g be (y - x) * p / 100 - (y - x)"
